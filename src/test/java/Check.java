@@ -1,0 +1,79 @@
+/** Counts the answers that are not due, and ends a test with exit code 1 if there was one. */
+final class Check {
+    interface Call {
+        void run();
+    }
+
+    private static int wrong = 0;
+    private static int checked = 0;
+
+    private Check() {
+    }
+
+    static void same(String what, long got, long due) {
+        checked++;
+        if (got != due) {
+            complain(what, String.valueOf(got), String.valueOf(due));
+        }
+    }
+
+    static void same(String what, double got, double due) {
+        checked++;
+        if (Double.compare(got, due) != 0) {
+            complain(what, String.valueOf(got), String.valueOf(due));
+        }
+    }
+
+    static void same(String what, boolean got, boolean due) {
+        checked++;
+        if (got != due) {
+            complain(what, String.valueOf(got), String.valueOf(due));
+        }
+    }
+
+    static void same(String what, String got, String due) {
+        checked++;
+        if (!got.equals(due)) {
+            complain(what, got, due);
+        }
+    }
+
+    /** The call must throw exactly this exception, and leave the digest as it was. */
+    static void refuses(PilotBook book, Class<? extends RuntimeException> due, String what, Call call) {
+        long before = book.digest();
+        String got = "nothing";
+        try {
+            call.run();
+        } catch (RuntimeException e) {
+            got = e.getClass().getName();
+        }
+        same(what + " throws", got, due.getName());
+        same("digest behind " + what, book.digest(), before);
+    }
+
+    static void noIndex(PilotBook book, String what, Call call) {
+        refuses(book, IndexOutOfBoundsException.class, what, call);
+    }
+
+    static void noArgument(PilotBook book, String what, Call call) {
+        refuses(book, IllegalArgumentException.class, what, call);
+    }
+
+    static void noState(PilotBook book, String what, Call call) {
+        refuses(book, IllegalStateException.class, what, call);
+    }
+
+    static void end() {
+        System.out.println(checked + " answers checked, " + wrong + " wrong");
+        if (wrong != 0) {
+            System.exit(1);
+        }
+    }
+
+    private static void complain(String what, String got, String due) {
+        wrong++;
+        if (wrong <= 50) {
+            System.out.println(what + ": got " + got + ", due is " + due);
+        }
+    }
+}
