@@ -38,14 +38,21 @@ final class Check {
         }
     }
 
-    /** The call must throw exactly this exception, and leave the digest as it was. */
+    /** What a call throws, and whether a throw of PilotBook's own threw it rather than the Java machine or library. */
+    static String thrown(RuntimeException e) {
+        StackTraceElement[] trace = e.getStackTrace();
+        boolean isOwn = trace.length > 0 && trace[0].getClassName().matches("(Pilot|Literal)Book.*");
+        return e.getClass().getName() + (isOwn ? "" : " of the machine");
+    }
+
+    /** The call must throw exactly this exception by itself, and leave the digest as it was. */
     static void refuses(PilotBook book, Class<? extends RuntimeException> due, String what, Call call) {
         long before = book.digest();
         String got = "nothing";
         try {
             call.run();
         } catch (RuntimeException e) {
-            got = e.getClass().getName();
+            got = thrown(e);
         }
         same(what + " throws", got, due.getName());
         same("digest behind " + what, book.digest(), before);

@@ -28,7 +28,7 @@ final class RandomRunsTest {
         try {
             return String.valueOf(answer.get());
         } catch (RuntimeException e) {
-            return "throws " + e.getClass().getName();
+            return "throws " + Check.thrown(e);
         }
     }
 
