@@ -6,8 +6,22 @@ final class Check {
 
     private static int wrong = 0;
     private static int checked = 0;
+    private static String sentence = "";
 
     private Check() {
+    }
+
+    /** Runs the test of one sentence of the document, whose words then stand ahead of each complaint. */
+    static void sentence(String words, Call test) {
+        sentence = "\"" + words + "\": ";
+        int before = checked;
+        try {
+            test.run();
+            same("answers were checked", checked > before, true);
+        } catch (RuntimeException e) {
+            complain("a call throws", thrown(e), "an answer");
+        }
+        sentence = "";
     }
 
     static void same(String what, long got, long due) {
@@ -80,7 +94,7 @@ final class Check {
     private static void complain(String what, String got, String due) {
         wrong++;
         if (wrong <= 50) {
-            System.out.println(what + ": got " + got + ", due is " + due);
+            System.out.println(sentence + what + ": got " + got + ", due is " + due);
         }
     }
 }

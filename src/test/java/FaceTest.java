@@ -57,7 +57,7 @@ final class FaceTest {
         TreeSet<String> open = new TreeSet<>();
         TreeSet<String> openNames = new TreeSet<>();
         for (Method method : PilotBook.class.getDeclaredMethods()) {
-            if (!Modifier.isPrivate(method.getModifiers())) {
+            if (!Modifier.isPrivate(method.getModifiers()) && !method.isSynthetic()) {
                 open.add(told(method));
                 openNames.add(method.getName());
             }
@@ -83,8 +83,9 @@ final class FaceTest {
         for (Class<?> one : classes) {
             for (Field field : one.getDeclaredFields()) {
                 int modifiers = field.getModifiers();
-                Check.same(field + " is private", Modifier.isPrivate(modifiers), true);
-                Check.same(field + " is no static state",
+                boolean isOpen = one == PilotBook.class && !field.isSynthetic() && !Modifier.isPrivate(modifiers);
+                Check.same(field + " of PilotBook is open", isOpen, false);
+                Check.same(field + " is static state",
                         Modifier.isStatic(modifiers) && !Modifier.isFinal(modifiers), false);
             }
         }

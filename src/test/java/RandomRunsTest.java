@@ -1,9 +1,11 @@
 import java.util.Random;
 
-/** Random runs of 512 calls, of a fixed seed, each call answered by PilotBook and by LiteralBook. */
+/** Random runs, each of a fixed seed, whose 512 calls are answered by PilotBook and by LiteralBook. */
 final class RandomRunsTest {
-    private static final int RUNS = 400;
+    private static final int RUNS = 600;
+    // Behind these calls the document promises nothing, so the digests that are asked for count as well.
     private static final int CALLS = 512;
+    private static final int CALLS_TO_A_DIGEST = 5;
     private static final int[] ODD = {Integer.MIN_VALUE, -2, -1, 2880, 2881, 100000, Integer.MAX_VALUE};
 
     private final Random random;
@@ -12,6 +14,7 @@ final class RandomRunsTest {
     private final boolean isDeep;
     private final boolean isBusy;
     private final int longest;
+    private int calls = 0;
 
     private RandomRunsTest(int seed) {
         random = new Random(seed);
@@ -33,8 +36,12 @@ final class RandomRunsTest {
     }
 
     private void compare(String call, Answer got, Answer due) {
+        calls++;
         Check.same(call, told(got), told(due));
-        Check.same("digest behind " + call, book.digest(), literal.digest());
+        if (calls % CALLS_TO_A_DIGEST == 0 || calls == CALLS - 1) {
+            calls++;
+            Check.same("digest behind " + call, book.digest(), literal.digest());
+        }
     }
 
     private int between(int low, int high) {
@@ -129,15 +136,15 @@ final class RandomRunsTest {
     }
 
     private void load() {
-        int ship = numberBelow(book.count(2));
+        int ship = numberBelow(literal.count(2));
         int draft = draft();
         compare("load(" + ship + ", " + draft + ")", () -> book.load(ship, draft), () -> literal.load(ship, draft));
     }
 
     private boolean isAtBerth(int ship) {
-        for (int i = book.count(4) - 1; i >= 0; i--) {
-            if (book.passage(i, 0) == ship) {
-                return book.passage(i, 5) == 0;
+        for (int i = literal.count(4) - 1; i >= 0; i--) {
+            if (literal.passage(i, 0) == ship) {
+                return literal.passage(i, 5) == 0;
             }
         }
         return false;
@@ -147,16 +154,16 @@ final class RandomRunsTest {
     private int placeFor(int ship) {
         int kind = random.nextInt(30);
         if (kind == 0) {
-            return numberBelow(book.count(1));
+            return numberBelow(literal.count(1));
         }
         if (kind < 5) {
-            return random.nextInt(book.count(1) + 1) - 1;
+            return random.nextInt(literal.count(1) + 1) - 1;
         }
-        return isAtBerth(ship) ? -1 : random.nextInt(Math.max(1, book.count(1)));
+        return isAtBerth(ship) ? -1 : random.nextInt(Math.max(1, literal.count(1)));
     }
 
     private void plan() {
-        int ship = numberBelow(book.count(2));
+        int ship = numberBelow(literal.count(2));
         int berth = placeFor(ship);
         int time = time();
         String words = "(" + ship + ", " + berth + ", " + time + ")";
@@ -172,10 +179,10 @@ final class RandomRunsTest {
     }
 
     private void look() {
-        int ship = numberBelow(book.count(2));
-        int berth = numberBelow(book.count(1));
-        int pilot = numberBelow(book.count(3));
-        int passage = numberBelow(book.count(4));
+        int ship = numberBelow(literal.count(2));
+        int berth = numberBelow(literal.count(1));
+        int pilot = numberBelow(literal.count(3));
+        int passage = numberBelow(literal.count(4));
         int what = between(0, 5);
         int time = between(0, 2879);
         switch (random.nextInt(10)) {
@@ -220,9 +227,9 @@ final class RandomRunsTest {
     private int run() {
         setUp();
         int most = 0;
-        for (int i = 0; i < CALLS; i++) {
+        while (calls < CALLS) {
             anyCall();
-            most = Math.max(most, book.count(4));
+            most = Math.max(most, literal.count(4));
         }
         return most;
     }
